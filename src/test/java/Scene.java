@@ -39,8 +39,8 @@ final class Scene {
         return x;
     }
 
-    /** Leaves what is on the wires already, at their tails. */
-    private static void bring(PppNegotiator x, int state) {
+    /** What is on the wires already stays there. */
+    static void bring(PppNegotiator x, int state) {
         switch (state) {
             case 0:
                 break;
@@ -84,16 +84,42 @@ final class Scene {
         x.up(1);
         x.open(1);
         if (state == 8) {
-            x.deliver(1);
+            deliverCode(x, 1, PppNegotiator.CODE_CONF_REQ);
             return;
         }
-        x.deliver(0);
-        if (state == 7) {
-            x.drop(1);
-        } else {
-            x.deliver(1);
+        deliverCode(x, 0, PppNegotiator.CODE_CONF_REQ);
+        if (state == 9) {
+            deliverCode(x, 1, PppNegotiator.CODE_CONF_REQ);
         }
-        x.deliver(1);
+        deliverCode(x, 1, PppNegotiator.CODE_CONF_ACK);
+    }
+
+    /** Turns the wire until a message of that code is its head. */
+    static void find(PppNegotiator x, int dir, int code) {
+        int turns = 0;
+        while (turns < x.wireSize(dir) && x.wireInfo(dir, 0, PppNegotiator.W_CODE) != code) {
+            x.rotate(dir);
+            turns++;
+        }
+        Check.due("code at the head", x.wireInfo(dir, 0, PppNegotiator.W_CODE), code);
+    }
+
+    static void deliverCode(PppNegotiator x, int dir, int code) {
+        find(x, dir, code);
+        x.deliver(dir);
+    }
+
+    /** A first or a new Configure-Request of peer 1, asking for that MRU, alone on wire 1. */
+    static void requestOfPeer1(PppNegotiator x, int mru) {
+        if (x.peerInfo(1, PppNegotiator.INFO_STATE) == 0) {
+            x.open(1);
+        } else {
+            x.down(1);
+        }
+        x.setRange(1, PppNegotiator.OPT_MRU, 64, mru);
+        empty(x, 1);
+        x.up(1);
+        Check.due("the request's MRU", x.wireInfo(1, 0, PppNegotiator.W_OPT), mru);
     }
 
     static void empty(PppNegotiator x, int dir) {
