@@ -7,6 +7,7 @@ import com.sun.source.tree.MemberSelectTree;
 import com.sun.source.tree.MethodInvocationTree;
 import com.sun.source.tree.MethodTree;
 import com.sun.source.tree.NewArrayTree;
+import com.sun.source.tree.PrimitiveTypeTree;
 import com.sun.source.tree.Tree;
 import com.sun.source.tree.VariableTree;
 import com.sun.source.util.JavacTask;
@@ -23,6 +24,7 @@ import java.util.Map;
 import java.util.Set;
 import java.util.TreeSet;
 import javax.lang.model.element.Modifier;
+import javax.lang.model.type.TypeKind;
 import javax.tools.JavaCompiler;
 import javax.tools.StandardJavaFileManager;
 import javax.tools.ToolProvider;
@@ -45,6 +47,7 @@ public final class LanguageTest {
 
     private static final Map<String, Set<String>> calls = new HashMap<>();
     private static final Set<String> ownNames = new HashSet<>();
+    private static final Set<String> ownMethods = new HashSet<>();
 
     private static void rule(int number, String what, boolean kept) {
         Check.due("rule " + number + ": " + what, kept, true);
@@ -104,12 +107,19 @@ public final class LanguageTest {
         }
 
         @Override
+        public Void visitPrimitiveType(PrimitiveTypeTree tree, Void nothing) {
+            rule(2, tree + " is no type of fractions", tree.getPrimitiveTypeKind() != TypeKind.FLOAT
+                && tree.getPrimitiveTypeKind() != TypeKind.DOUBLE);
+            return super.visitPrimitiveType(tree, nothing);
+        }
+
+        @Override
         public Void visitMethodInvocation(MethodInvocationTree tree, Void nothing) {
             String called = tree.getMethodSelect().toString();
             if (called.equals("super")) {
                 return null; // the compiler's own call at the head of the constructor
             }
-            rule(3, "the call of " + called, tree.getMethodSelect() instanceof IdentifierTree);
+            rule(3, "the call of " + called, ownMethods.contains(called));
             rule(10, tree + " is no argument of a call", argumentsDeep == 0);
             calls.computeIfAbsent(method, m -> new TreeSet<>()).add(called);
             argumentsDeep++;
@@ -139,8 +149,14 @@ public final class LanguageTest {
         }
     }
 
-    /** Names that the program gives to its fields, parameters and local variables. */
+    /** Names that the program gives to its methods, fields, parameters and local variables. */
     private static final class Names extends TreeScanner<Void, Void> {
+        @Override
+        public Void visitMethod(MethodTree tree, Void nothing) {
+            ownMethods.add(tree.getName().toString());
+            return super.visitMethod(tree, nothing);
+        }
+
         @Override
         public Void visitVariable(VariableTree tree, Void nothing) {
             ownNames.add(tree.getName().toString());

@@ -64,6 +64,7 @@ public final class P08ClassifyTest {
     /** The same magic number as one's own is never good; for other options it is. */
     private static void magic() {
         answer("lower one", row(-1, -1, 9, -1), row(1, 0, 1, 0, 5, 9, 1, 0), NAK, -1, -1, 8, -1);
+        answer("lower one is lo", row(-1, -1, 9, -1), row(1, 0, 1, 0, 8, 9, 1, 0), NAK, -1, -1, 8, -1);
         answer("no lower one", row(-1, -1, 9, -1), row(1, 0, 1, 0, 9, 9, 1, 0), NAK, -1, -1, 9, -1);
         answer("another one", row(-1, -1, 8, -1), row(1, 0, 1, 0, 5, 9, 1, 0), ACK, -1, -1, 8, -1);
         answer("0 and no lower", row(-1, -1, 0, -1), row(1, 0, 1, 0, 0, 0, 1, 0), NAK, -1, -1, 0, -1);
@@ -71,10 +72,10 @@ public final class P08ClassifyTest {
     }
 
     /** want is brought down to lo by a Nak, so that only a higher number is left to suggest. */
-    private static void magicGoesUp() {
+    private static void magicGoesUp(int hi) {
         PppNegotiator x = Scene.fresh();
         x.setRange(0, PppNegotiator.OPT_MAGIC, 5, 5);
-        x.setRange(1, PppNegotiator.OPT_MAGIC, 5, 9);
+        x.setRange(1, PppNegotiator.OPT_MAGIC, 5, hi);
         for (int p = 0; p < 2; p++) {
             x.up(p);
             x.open(p);
@@ -142,7 +143,8 @@ public final class P08ClassifyTest {
         edgesOfARange();
         mixtures();
         magic();
-        magicGoesUp();
+        magicGoesUp(9);
+        magicGoesUp(6);
         magicNotIncluded();
         tooManyNaks();
         Check.end();
