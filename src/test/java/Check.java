@@ -2,17 +2,25 @@ import java.util.Arrays;
 
 /** What the tests share: counting wrong answers, and a view of all that the getters show. */
 final class Check {
+    private static final int ITEMS = 13 + 4 * 7;
+
     private static int calls = 0;
     private static int wrong = 0;
+    private static String sentence = "";
 
     private Check() {
+    }
+
+    /** The words of the document that the checks after this one stand for. */
+    static void sentence(String where, String words) {
+        sentence = where + ", '" + words + "' ";
     }
 
     static void due(String what, long got, long want) {
         calls++;
         if (got != want) {
             wrong++;
-            System.out.println(what + " answered " + got + ", due is " + want);
+            System.out.println(sentence + what + " answered " + got + ", due is " + want);
         }
     }
 
@@ -41,6 +49,33 @@ final class Check {
             }
         }
         return all;
+    }
+
+    /** Every item of both peers, without the wires. */
+    static int[] items(PppNegotiator x) {
+        int[] all = everything(x);
+        int half = all.length / 2;
+        int[] items = new int[2 * ITEMS];
+        System.arraycopy(all, 0, items, 0, ITEMS);
+        System.arraycopy(all, half, items, ITEMS, ITEMS);
+        return items;
+    }
+
+    /** The size of one wire and every field of its messages. */
+    static int[] wire(PppNegotiator x, int dir) {
+        int[] all = everything(x);
+        int first = dir * all.length / 2 + ITEMS;
+        return Arrays.copyOfRange(all, first, first + 1 + 8 * 7);
+    }
+
+    /** Numbers just outside a range and far outside, also such as a narrower type would let in. */
+    static int[] outside(int least, int greatest) {
+        return new int[] {Integer.MIN_VALUE, least - 65536, least - 256, least - 1,
+            greatest + 1, least + 256, least + 65536, Integer.MAX_VALUE};
+    }
+
+    static void same(String what, int[] got, int[] want) {
+        due(what, Arrays.equals(got, want), true);
     }
 
     static void unchanged(String what, PppNegotiator x, int[] before) {

@@ -1,64 +1,14 @@
 /** Promise 8, codes 2, 3 and 4: Ack, Nak and Reject, valid or not, in every state of peer 0. */
 public final class P08AnswerTest {
-    /**
-     * Peer 0 has sent request 1 (MRU 1500, COMP 15); on wire 1 wait an Ack, a Nak (COMP 9) and a
-     * Reject (COMP 15) of it, in this order. Peer 1 gives all three by going down in between.
-     */
-    private static PppNegotiator withAnswers() {
-        PppNegotiator x = Scene.withoutMagic();
-        x.up(0);
-        x.open(0);
-        x.duplicate(0);
-        x.duplicate(0);
-        x.open(1);
-        for (int[] range : new int[][] {{0, 15}, {0, 9}, {1, 0}}) {
-            x.setRange(1, PppNegotiator.OPT_COMP, range[0], range[1]);
-            x.up(1);
-            Scene.find(x, 1, 1);
-            x.drop(1);
-            x.deliver(0);
-            x.down(1);
-        }
-        while (x.wireInfo(1, 0, PppNegotiator.W_CODE) != 2) {
-            x.rotate(1);
-        }
-        Check.due("answers", x.wireSize(1), 3);
-        Check.message("answer", x, 1, 0, 2, 1, 0, 1500, -1, -1, 15);
-        Check.message("answer", x, 1, 1, 3, 1, 0, -1, -1, -1, 9);
-        Check.message("answer", x, 1, 2, 4, 1, 0, -1, -1, -1, 15);
-        return x;
-    }
-
-    /** Peer 0 moves on without another Configure-Request, so the answers stay valid. */
-    private static PppNegotiator withAnswersIn(int state) {
-        PppNegotiator x = withAnswers();
-        if (state <= 5) {
-            x.close(0);
-            if (state == 3 || state == 5) {
-                x.open(0);
-            }
-            if (state <= 3) {
-                Scene.ticks(x, Scene.MAX_TERMINATE * Scene.RESTART_TICKS);
-            }
-        }
-        if (state == 7 || state == 9) {
-            x.duplicate(1);
-            x.deliver(1);
-        }
-        if (state == 8 || state == 9) {
-            x.setRange(1, PppNegotiator.OPT_COMP, 0, 15);
-            x.up(1);
-            Scene.deliverCode(x, 1, 1);
-            x.down(1);
-        }
-        Scene.empty(x, 0);
-        Check.peer("before", x, 0, PppNegotiator.INFO_STATE, state, PppNegotiator.INFO_CR_ID, 1);
-        return x;
-    }
+    private static final String RECEPTION = "RECEPTION of message m by peer p";
+    private static final String ADOPT = "ADOPT: if the received message is a Nak, for each option"
+        + " present in it want = its value raised to lo if below lo, lowered to hi if above hi; if it"
+        + " is a Reject, for each option present in it included = false.";
 
     /** State due, then ups, downs and restart due; the codes sent. */
-    private static PppNegotiator answer(int code, int state, int[] due, int... codes) {
-        PppNegotiator x = withAnswersIn(state);
+    private static void answer(int code, int state, int[] due, int... codes) {
+        Check.sentence("Transitions", code == 2 ? "RCA" : "RCN");
+        PppNegotiator x = Scene.withAnswersIn(state);
         int nextId = x.peerInfo(0, PppNegotiator.INFO_NEXT_ID);
         String what = "answer " + code + " in state " + state;
         Scene.find(x, 1, code);
@@ -77,7 +27,6 @@ public final class P08AnswerTest {
                 Check.peer(what, x, 0, PppNegotiator.INFO_CR_ID, nextId + 1);
             }
         }
-        return x;
     }
 
     private static int[] row(int... numbers) {
@@ -88,13 +37,10 @@ public final class P08AnswerTest {
         answer(2, 2, row(2, 0, 0, 0), 6);
         answer(2, 3, row(3, 0, 0, 0), 6);
         answer(2, 4, row(4, 0, 0, 1));
-        PppNegotiator x = answer(2, 5, row(5, 0, 0, 1));
-        Check.options("no local in state 5", x, 0, PppNegotiator.OI_LOCAL, -1, -1, -1, -1);
-        x = answer(2, 6, row(7, 0, 0, 10));
-        Check.options("local in state 6", x, 0, PppNegotiator.OI_LOCAL, 1500, -1, -1, 15);
+        answer(2, 5, row(5, 0, 0, 1));
+        answer(2, 6, row(7, 0, 0, 10));
         answer(2, 7, row(6, 0, 0, 9), 1);
-        x = answer(2, 8, row(9, 1, 0, 10));
-        Check.options("local in state 8", x, 0, PppNegotiator.OI_LOCAL, 1500, -1, -1, 15);
+        answer(2, 8, row(9, 1, 0, 10));
         answer(2, 9, row(6, 1, 1, 9), 1);
     }
 
@@ -111,36 +57,109 @@ public final class P08AnswerTest {
         }
     }
 
-    /** In states that do not adopt, want and included stay. */
-    private static void notAdopted() {
-        for (int state = 2; state <= 5; state++) {
-            for (int code = 3; code <= 4; code++) {
-                PppNegotiator x = withAnswersIn(state);
+    private static void localInStates6And8() {
+        Check.sentence(RECEPTION, "Valid: in states 6 and 8 first local = sent; then event RCA.");
+        for (int state = 2; state <= 8; state++) {
+            if (state == 7) {
+                continue; // the Ack that led to state 7 has set local already
+            }
+            PppNegotiator x = Scene.withAnswersIn(state);
+            Check.options("before", x, 0, PppNegotiator.OI_LOCAL, -1, -1, -1, -1);
+            Scene.deliverCode(x, 1, PppNegotiator.CODE_CONF_ACK);
+            boolean set = state == 6 || state == 8;
+            Check.options("local after state " + state, x, 0, PppNegotiator.OI_LOCAL,
+                set ? 1500 : -1, -1, -1, set ? 15 : -1);
+        }
+    }
+
+    /** In states 4 and 5 not a single item changes. */
+    private static void statesNotListed() {
+        Check.sentence("Transitions", "A state not listed for an event keeps its state and does"
+            + " nothing; without -> the state stays.");
+        for (int state = 4; state <= 5; state++) {
+            for (int code = 2; code <= 4; code++) {
+                PppNegotiator x = Scene.withAnswersIn(state);
+                int[] items = Check.items(x);
                 Scene.deliverCode(x, 1, code);
-                Check.options("state " + state, x, 0, PppNegotiator.OI_WANT, 1500, 0, 0, 15);
-                Check.options("state " + state, x, 0, PppNegotiator.OI_INCLUDED, 1, 0, 0, 1);
+                String what = "answer " + code + " in state " + state;
+                Check.same(what + ": the same items", Check.items(x), items);
+                Check.due(what + ": messages", x.wireSize(0), 0);
             }
         }
     }
 
-    /** After a newer request the answers to the old one are discarded, whatever the state. */
-    private static void oldIds() {
-        for (int code = 2; code <= 4; code++) {
-            PppNegotiator x = withAnswers();
-            Scene.ticks(x, Scene.RESTART_TICKS);
-            Check.peer("newer request", x, 0, PppNegotiator.INFO_CR_ID, 2);
-            Scene.find(x, 1, code);
-            x.deliver(1);
-            Check.peer("old answer", x, 0, PppNegotiator.INFO_STATE, 6, PppNegotiator.INFO_CR_ID, 2,
-                PppNegotiator.INFO_RESTART, 8);
-            Check.options("old answer", x, 0, PppNegotiator.OI_LOCAL, -1, -1, -1, -1);
-            Check.options("old answer", x, 0, PppNegotiator.OI_WANT, 1500, 0, 0, 15);
-            Check.options("old answer", x, 0, PppNegotiator.OI_INCLUDED, 1, 0, 0, 1);
+    /** In states 2 and 3 a valid answer brings a Terminate-Ack, and no item changes. */
+    private static void onlyATerminateAck() {
+        Check.sentence("Transitions", "2: sta; 3: sta");
+        for (int state = 2; state <= 3; state++) {
+            for (int code = 2; code <= 4; code++) {
+                PppNegotiator x = Scene.withAnswersIn(state);
+                int[] items = Check.items(x);
+                Scene.deliverCode(x, 1, code);
+                String what = "answer " + code + " in state " + state;
+                Check.same(what + ": the same items", Check.items(x), items);
+                Check.due(what + ": messages", x.wireSize(0), 1);
+            }
         }
     }
 
+    /** After a newer request the answers to the old one are discarded, in all the states 2..9. */
+    private static void oldIds(int code, String words) {
+        Check.sentence(RECEPTION, words);
+        for (int state = 2; state <= 9; state++) {
+            PppNegotiator x = Scene.carrying(code);
+            x.setRange(1, PppNegotiator.OPT_COMP, 0, 15);
+            x.setRange(0, PppNegotiator.OPT_MRU, 64, 1400);
+            x.setRange(1, PppNegotiator.OPT_MRU, 64, 1400);
+            x.up(0);
+            x.open(0);
+            x.down(0);
+            x.close(0);
+            Scene.empty(x, 0);
+            bringBesideAnswers(x, state);
+            Check.peer("before", x, 0, PppNegotiator.INFO_STATE, state);
+            Scene.empty(x, 0);
+            findOld(x, code);
+            int[] items = Check.items(x);
+            String what = "an old answer " + code + " in state " + state;
+            Check.due(what, x.deliver(1), code);
+            Check.same(what + ": the same items", Check.items(x), items);
+            Check.due(what + ": no response", x.wireSize(0), 0);
+        }
+    }
+
+    /** The old answer waits at the head while newer messages go past it. */
+    private static void bringBesideAnswers(PppNegotiator x, int state) {
+        if (state <= 6) {
+            Scene.bring(x, state);
+            return;
+        }
+        for (int p = 0; p < 2; p++) {
+            x.up(p);
+            x.open(p);
+        }
+        x.rotate(1);
+        if (state >= 8) {
+            x.deliver(1);
+        } else {
+            x.drop(1);
+        }
+        if (state != 8) {
+            Scene.deliverCode(x, 0, PppNegotiator.CODE_CONF_REQ);
+            x.rotate(1);
+            x.deliver(1);
+        }
+    }
+
+    private static void findOld(PppNegotiator x, int code) {
+        Scene.find(x, 1, code);
+        Check.due("the id of the old answer", x.wireInfo(1, 0, PppNegotiator.W_ID), 1);
+        Check.due("a newer request", x.peerInfo(0, PppNegotiator.INFO_CR_ID) > 1, true);
+    }
+
     /** A Nak's values are drawn into one's own range, from below and from above. */
-    private static void adoptClamps(int lo, int hi, int otherLo, int otherHi, int wantDue) {
+    private static void adoptNak(int lo, int hi, int otherLo, int otherHi, int wantDue) {
+        Check.sentence("Actions of peer p", ADOPT);
         PppNegotiator x = Scene.withoutMagic();
         x.setRange(0, PppNegotiator.OPT_COMP, lo, hi);
         x.setRange(1, PppNegotiator.OPT_COMP, otherLo, otherHi);
@@ -155,16 +174,91 @@ public final class P08AnswerTest {
         Check.options("asked for at once", x, 0, PppNegotiator.OI_SENT, 1500, -1, -1, wantDue);
     }
 
+    /** Each number is the peer's lo and hi, the other's lo and hi, and what the Nak leads to. */
+    private static void adoptNaks() {
+        adoptNak(0, 15, 3, 9, 9);
+        adoptNak(8, 15, 3, 9, 9);
+        adoptNak(9, 15, 3, 9, 9);
+        adoptNak(10, 15, 3, 9, 10);
+        adoptNak(0, 2, 3, 9, 2);
+        adoptNak(2, 2, 3, 9, 2);
+        adoptNak(3, 3, 0, 0, 3);
+        adoptNak(0, 15, 0, 0, 0);
+        adoptNak(1, 15, 0, 0, 1);
+        adoptNak(0, 65534, 65535, 65535, 65534);
+        adoptNak(65535, 65535, 0, 65534, 65535);
+        adoptNak(0, 65535, 0, 65534, 65534);
+    }
+
+    /** An option that the refusal does not name keeps both want and included. */
+    private static void onlyTheNamed() {
+        Check.sentence("Actions of peer p", ADOPT);
+        PppNegotiator x = Scene.withAnswers();
+        Scene.deliverCode(x, 1, PppNegotiator.CODE_CONF_NAK);
+        Check.options("a Nak of COMP", x, 0, PppNegotiator.OI_WANT, 1500, 0, 0, 9);
+        Check.options("a Nak of COMP", x, 0, PppNegotiator.OI_INCLUDED, 1, 0, 0, 1);
+        x = Scene.withAnswers();
+        Scene.deliverCode(x, 1, PppNegotiator.CODE_CONF_REJ);
+        Check.options("a Reject of COMP", x, 0, PppNegotiator.OI_WANT, 1500, 0, 0, 15);
+        Check.options("a Reject of COMP", x, 0, PppNegotiator.OI_INCLUDED, 1, 0, 0, 0);
+    }
+
+    /** When all is rejected, the next request asks for nothing, and that is a good one. */
+    private static void allRejected() {
+        Check.sentence("Actions of peer p", ADOPT);
+        PppNegotiator x = Scene.fresh();
+        for (int o = 0; o < 4; o++) {
+            x.setRange(0, o, 7, 7);
+            x.setRange(1, o, 1, 0);
+        }
+        for (int p = 0; p < 2; p++) {
+            x.up(p);
+            x.open(p);
+        }
+        x.drop(1);
+        x.deliver(0);
+        Check.message("rejected", x, 1, 0, 4, 1, 0, 7, 7, 7, 7);
+        x.deliver(1);
+        Check.message("nothing asked", x, 0, 0, 1, 2, 0, -1, -1, -1, -1);
+        x.deliver(0);
+        Check.message("acknowledged", x, 1, 0, 2, 2, 0, -1, -1, -1, -1);
+        x.deliver(1);
+        Check.peer("acknowledged", x, 0, PppNegotiator.INFO_STATE, 7);
+        Check.options("acknowledged", x, 0, PppNegotiator.OI_LOCAL, -1, -1, -1, -1);
+    }
+
+    private static void fullWires() {
+        int[][] sends = {{1, 1, 0, 0, 0, 1, 0, 1}, {1, 1, 0, 0, 1, 1, 1, 1}};
+        for (int code = 2; code <= 4; code++) {
+            for (int state = 2; state <= 9; state++) {
+                int in = state;
+                int which = code;
+                FullWire.loses("answer " + code + " in state " + state,
+                    sends[code == 2 ? 0 : 1][state - 2], () -> {
+                        PppNegotiator x = Scene.withAnswersIn(in);
+                        Scene.find(x, 1, which);
+                        return x;
+                    }, x -> x.deliver(1));
+            }
+        }
+    }
+
     public static void main(String[] args) {
         acks();
         refusals();
-        notAdopted();
-        oldIds();
-        adoptClamps(0, 15, 3, 9, 9);
-        adoptClamps(5, 15, 3, 9, 9);
-        adoptClamps(10, 15, 3, 9, 10);
-        adoptClamps(0, 2, 3, 9, 2);
-        adoptClamps(3, 3, 0, 0, 3);
+        localInStates6And8();
+        statesNotListed();
+        onlyATerminateAck();
+        oldIds(2, "2: valid only if m.id == crId and all four option fields equal sent; an invalid"
+            + " one is discarded.");
+        oldIds(3, "3: valid only if m.id == crId and every option present in m is not NONE in sent;"
+            + " then RCN.");
+        oldIds(4, "4: valid only if m.id == crId and every option present in m equals its sent"
+            + " value; then RCN.");
+        adoptNaks();
+        onlyTheNamed();
+        allRejected();
+        fullWires();
         Check.end();
     }
 }

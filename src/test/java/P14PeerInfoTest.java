@@ -1,22 +1,55 @@
 /** Promise 14: each selector answers its own item of its own peer. */
 public final class P14PeerInfoTest {
-    private static void wrongInputs() {
-        PppNegotiator x = Scene.in(9);
-        int[] before = Check.everything(x);
-        for (int peer : new int[] {Integer.MIN_VALUE, -1, 2, Integer.MAX_VALUE}) {
-            for (int what = 0; what <= 12; what++) {
+    private static final String REFUSED =
+        "Answers -1 if peer is not 0 or 1 or what is not 0..12.";
+
+    private static void noSuchPeer() {
+        Check.sentence("Promise 14", REFUSED);
+        PppNegotiator x = Scene.busy();
+        for (int peer : Check.outside(0, 1)) {
+            for (int what = -1; what <= 13; what++) {
                 Check.due("peerInfo(" + peer + ", " + what + ")", x.peerInfo(peer, what), -1);
             }
         }
-        for (int what : new int[] {Integer.MIN_VALUE, -1, 13, Integer.MAX_VALUE}) {
-            Check.due("peerInfo(0, " + what + ")", x.peerInfo(0, what), -1);
-            Check.due("peerInfo(1, " + what + ")", x.peerInfo(1, what), -1);
+    }
+
+    private static void noSuchItem() {
+        Check.sentence("Promise 14", REFUSED);
+        PppNegotiator x = Scene.busy();
+        for (int what : Check.outside(0, 12)) {
+            for (int peer = 0; peer < 2; peer++) {
+                Check.due("peerInfo(" + peer + ", " + what + ")", x.peerInfo(peer, what), -1);
+            }
+        }
+    }
+
+    /** No item is ever -1, so that the answer -1 always tells of a wrong input. */
+    private static void firstAndLastItem() {
+        Check.sentence("Promise 14", REFUSED);
+        PppNegotiator x = Scene.fresh();
+        for (int peer = 0; peer < 2; peer++) {
+            x.open(peer);
+            x.close(peer);
+            x.up(peer);
+            Check.peer("the first and the last", x, peer, 0, 2, 12, 1);
+        }
+    }
+
+    private static void nothingChanges() {
+        Check.sentence("Promise 14", "Nothing changes.");
+        PppNegotiator x = Scene.busy();
+        int[] before = Check.everything(x);
+        for (int peer = -1; peer <= 2; peer++) {
+            for (int what = -1; what <= 13; what++) {
+                x.peerInfo(peer, what);
+            }
         }
         Check.unchanged("peerInfo", x, before);
     }
 
     /** A run after which the items differ from each other as far as they can. */
     private static void allItems() {
+        Check.sentence("Promise 14", "Answers the peer's item selected by what");
         PppNegotiator x = new PppNegotiator(7, 4, 5, 4);
         x.setRange(0, PppNegotiator.OPT_MRU, 64, 1000);
         x.open(0);
@@ -51,7 +84,10 @@ public final class P14PeerInfoTest {
     }
 
     public static void main(String[] args) {
-        wrongInputs();
+        noSuchPeer();
+        noSuchItem();
+        firstAndLastItem();
+        nothingChanges();
         allItems();
         Check.end();
     }

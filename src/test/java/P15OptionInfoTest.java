@@ -1,31 +1,77 @@
 /** Promise 15: each selector answers its own item of its own option and peer. */
 public final class P15OptionInfoTest {
-    private static void wrongInputs() {
-        PppNegotiator x = Scene.in(9);
-        int[] before = Check.everything(x);
-        int[] wrong = {Integer.MIN_VALUE, -1, 2, Integer.MAX_VALUE};
-        for (int peer : wrong) {
-            Check.due("optionInfo(" + peer + ", 0, 0)", x.optionInfo(peer, 0, 0), -1);
-        }
-        wrong[2] = 4;
-        for (int opt : wrong) {
-            for (int peer = 0; peer < 2; peer++) {
-                String call = "optionInfo(" + peer + ", " + opt + ", 0)";
-                Check.due(call, x.optionInfo(peer, opt, 0), -1);
+    private static final String REFUSED =
+        "Answers -1 if peer is not 0 or 1, opt is not 0..3, or what is not 0..6.";
+
+    private static void due(PppNegotiator x, int peer, int opt, int what, int answer) {
+        Check.due("optionInfo(" + peer + ", " + opt + ", " + what + ")",
+            x.optionInfo(peer, opt, what), answer);
+    }
+
+    private static void noSuchPeer() {
+        Check.sentence("Promise 15", REFUSED);
+        PppNegotiator x = Scene.busy();
+        for (int peer : Check.outside(0, 1)) {
+            for (int opt = 0; opt < 4; opt++) {
+                for (int what = 0; what < 7; what++) {
+                    due(x, peer, opt, what, -1);
+                }
             }
         }
-        wrong[2] = 7;
-        for (int what : wrong) {
-            for (int peer = 0; peer < 2; peer++) {
-                String call = "optionInfo(" + peer + ", 3, " + what + ")";
-                Check.due(call, x.optionInfo(peer, 3, what), -1);
+    }
+
+    private static void noSuchOption() {
+        Check.sentence("Promise 15", REFUSED);
+        PppNegotiator x = Scene.busy();
+        for (int opt : Check.outside(0, 3)) {
+            for (int what = 0; what < 7; what++) {
+                due(x, 0, opt, what, -1);
+                due(x, 1, opt, what, -1);
+            }
+        }
+    }
+
+    private static void noSuchItem() {
+        Check.sentence("Promise 15", REFUSED);
+        PppNegotiator x = Scene.busy();
+        for (int what : Check.outside(0, 6)) {
+            for (int opt = 0; opt < 4; opt++) {
+                due(x, 0, opt, what, -1);
+                due(x, 1, opt, what, -1);
+            }
+        }
+    }
+
+    private static void nothingChanges() {
+        Check.sentence("Promise 15", "Nothing changes.");
+        PppNegotiator x = Scene.busy();
+        int[] before = Check.everything(x);
+        for (int peer = -1; peer <= 2; peer++) {
+            for (int opt = -1; opt <= 4; opt++) {
+                for (int what = -1; what <= 7; what++) {
+                    x.optionInfo(peer, opt, what);
+                }
             }
         }
         Check.unchanged("optionInfo", x, before);
     }
 
+    private static void included() {
+        Check.sentence("Promise 15", "OI_INCLUDED (1 or 0)");
+        PppNegotiator x = Scene.fresh();
+        for (int peer = 0; peer < 2; peer++) {
+            Check.options("a new object", x, peer, PppNegotiator.OI_INCLUDED, 1, 0, 1, 1);
+            x.setRange(peer, PppNegotiator.OPT_MRU, 1, 0);
+            x.setRange(peer, PppNegotiator.OPT_AUTH, 0, 0);
+            x.up(peer);
+            x.open(peer);
+            Check.options("the next start", x, peer, PppNegotiator.OI_INCLUDED, 0, 1, 1, 1);
+        }
+    }
+
     /** Both peers ask for different values; afterwards new ranges leave the rest as it was. */
     private static void allItems() {
+        Check.sentence("Promise 15", "Answers the peer's item for option opt selected by what");
         PppNegotiator x = Scene.fresh();
         x.setRange(0, PppNegotiator.OPT_AUTH, 2, 5);
         x.setRange(1, PppNegotiator.OPT_AUTH, 2, 4);
@@ -67,7 +113,11 @@ public final class P15OptionInfoTest {
     }
 
     public static void main(String[] args) {
-        wrongInputs();
+        noSuchPeer();
+        noSuchOption();
+        noSuchItem();
+        nothingChanges();
+        included();
         allItems();
         Check.end();
     }
