@@ -103,33 +103,44 @@ public final class P08AnswerTest {
         }
     }
 
-    /** After a newer request the answers to the old one are discarded, in all the states 2..9. */
+    /**
+     * After a newer request the answers to the old one are discarded, in all the states 2..9, and
+     * also if the newer request asks for the very same values.
+     */
     private static void oldIds(int code, String words) {
         Check.sentence(RECEPTION, words);
         for (int state = 2; state <= 9; state++) {
-            PppNegotiator x = Scene.carrying(code);
-            x.setRange(1, PppNegotiator.OPT_COMP, 0, 15);
-            x.setRange(0, PppNegotiator.OPT_MRU, 64, 1400);
-            x.setRange(1, PppNegotiator.OPT_MRU, 64, 1400);
-            x.up(0);
-            x.open(0);
-            x.down(0);
-            x.close(0);
-            Scene.empty(x, 0);
-            bringBesideAnswers(x, state);
-            Check.peer("before", x, 0, PppNegotiator.INFO_STATE, state);
-            Scene.empty(x, 0);
-            findOld(x, code);
-            int[] items = Check.items(x);
-            String what = "an old answer " + code + " in state " + state;
-            Check.due(what, x.deliver(1), code);
-            Check.same(what + ": the same items", Check.items(x), items);
-            Check.due(what + ": no response", x.wireSize(0), 0);
+            for (int mru : new int[] {1500, 1400}) {
+                PppNegotiator x = withOldAnswer(code, mru);
+                bringBesideAnswer(x, state);
+                Check.peer("before", x, 0, PppNegotiator.INFO_STATE, state);
+                Scene.empty(x, 0);
+                findOld(x, code);
+                int[] items = Check.items(x);
+                String what = "an old answer " + code + " in state " + state + ", MRU " + mru;
+                Check.due(what, x.deliver(1), code);
+                Check.same(what + ": the same items", Check.items(x), items);
+                Check.due(what + ": no response", x.wireSize(0), 0);
+            }
         }
     }
 
+    /** An answer to request 1 of peer 0, which has sent another request since; both rest. */
+    private static PppNegotiator withOldAnswer(int code, int mru) {
+        PppNegotiator x = Scene.carrying(code);
+        x.setRange(1, PppNegotiator.OPT_COMP, 0, 15);
+        x.setRange(0, PppNegotiator.OPT_MRU, 64, mru);
+        x.setRange(1, PppNegotiator.OPT_MRU, 64, mru);
+        x.up(0);
+        x.open(0);
+        x.down(0);
+        x.close(0);
+        Scene.empty(x, 0);
+        return x;
+    }
+
     /** The old answer waits at the head while newer messages go past it. */
-    private static void bringBesideAnswers(PppNegotiator x, int state) {
+    private static void bringBesideAnswer(PppNegotiator x, int state) {
         if (state <= 6) {
             Scene.bring(x, state);
             return;
@@ -203,6 +214,37 @@ public final class P08AnswerTest {
         Check.options("a Reject of COMP", x, 0, PppNegotiator.OI_INCLUDED, 1, 0, 0, 0);
     }
 
+    /** A Nak may suggest what was asked for; it is still one answer, and one to a Nak. */
+    private static void nakOfTheSameValue(int state, int code) {
+        Check.sentence(RECEPTION, "3: valid only if m.id == crId and every option present in m is"
+            + " not NONE in sent; then RCN.");
+        PppNegotiator x = Scene.fresh();
+        for (int p = 0; p < 2; p++) {
+            x.setRange(p, PppNegotiator.OPT_MAGIC, 5, 5);
+            x.up(p);
+            x.open(p);
+        }
+        Scene.empty(x, 1);
+        x.deliver(0);
+        Check.message("the only number there is", x, 1, 0, 3, 1, 0, -1, -1, 5, -1);
+        if (state < 6) {
+            x.close(0);
+            if (state == 3) {
+                x.open(0);
+            }
+            Scene.ticks(x, Scene.MAX_TERMINATE * Scene.RESTART_TICKS);
+        }
+        Scene.find(x, 1, PppNegotiator.CODE_CONF_NAK);
+        Scene.empty(x, 0);
+        Check.peer("before", x, 0, PppNegotiator.INFO_STATE, state);
+        x.deliver(1);
+        Check.peer("after", x, 0, PppNegotiator.INFO_STATE, state);
+        Check.due("one message", x.wireSize(0), 1);
+        Check.due("one message", x.wireInfo(0, 0, PppNegotiator.W_CODE), code);
+        Check.options("still wanted", x, 0, PppNegotiator.OI_WANT, 1500, 0, 5, 15);
+        Check.options("still asked for", x, 0, PppNegotiator.OI_INCLUDED, 1, 0, 1, 1);
+    }
+
     /** When all is rejected, the next request asks for nothing, and that is a good one. */
     private static void allRejected() {
         Check.sentence("Actions of peer p", ADOPT);
@@ -257,6 +299,9 @@ public final class P08AnswerTest {
             + " value; then RCN.");
         adoptNaks();
         onlyTheNamed();
+        nakOfTheSameValue(2, 6);
+        nakOfTheSameValue(3, 6);
+        nakOfTheSameValue(6, 1);
         allRejected();
         fullWires();
         Check.end();
