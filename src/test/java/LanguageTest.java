@@ -1,6 +1,7 @@
 import com.sun.source.tree.ArrayTypeTree;
 import com.sun.source.tree.ClassTree;
 import com.sun.source.tree.CompilationUnitTree;
+import com.sun.source.tree.ForLoopTree;
 import com.sun.source.tree.IdentifierTree;
 import com.sun.source.tree.LiteralTree;
 import com.sun.source.tree.MemberSelectTree;
@@ -42,7 +43,8 @@ public final class LanguageTest {
         Tree.Kind.ANNOTATION_TYPE, Tree.Kind.ANNOTATION, Tree.Kind.NEW_CLASS, Tree.Kind.THROW, Tree.Kind.TRY,
         Tree.Kind.CATCH, Tree.Kind.SYNCHRONIZED, Tree.Kind.ASSERT, Tree.Kind.INSTANCE_OF,
         Tree.Kind.LAMBDA_EXPRESSION, Tree.Kind.MEMBER_REFERENCE, Tree.Kind.SWITCH_EXPRESSION,
-        Tree.Kind.ENHANCED_FOR_LOOP, Tree.Kind.PARAMETERIZED_TYPE, Tree.Kind.STRING_LITERAL,
+        Tree.Kind.ENHANCED_FOR_LOOP, Tree.Kind.WHILE_LOOP, Tree.Kind.DO_WHILE_LOOP,
+        Tree.Kind.PARAMETERIZED_TYPE, Tree.Kind.STRING_LITERAL,
         Tree.Kind.FLOAT_LITERAL, Tree.Kind.DOUBLE_LITERAL, Tree.Kind.NULL_LITERAL);
 
     private static final Map<String, Set<String>> calls = new HashMap<>();
@@ -57,6 +59,7 @@ public final class LanguageTest {
         private String method = "";
         private boolean inField = false;
         private int argumentsDeep = 0;
+        private List<? extends VariableTree> parameters = List.of();
 
         @Override
         public Void scan(Tree tree, Void nothing) {
@@ -69,6 +72,7 @@ public final class LanguageTest {
         @Override
         public Void visitMethod(MethodTree tree, Void nothing) {
             method = tree.getName().toString();
+            parameters = tree.getParameters();
             calls.putIfAbsent(method, new TreeSet<>());
             rule(10, method + " takes few parameters", tree.getParameters().size() <= MOST_PARAMETERS);
             rule(4, method + " answers no array", !(tree.getReturnType() instanceof ArrayTypeTree));
@@ -86,6 +90,10 @@ public final class LanguageTest {
                 rule(5, tree.getName() + " is a constant", flags.contains(Modifier.FINAL)
                     && tree.getInitializer() != null && (type.equals("int") || type.equals("long")));
             }
+            if (tree.getType() instanceof ArrayTypeTree) {
+                rule(4, "the array " + tree.getName() + " is a field or is handed over, and stays the same",
+                    field ? flags.contains(Modifier.FINAL) : parameters.contains(tree));
+            }
             inField = field;
             super.visitVariable(tree, nothing);
             inField = false;
@@ -98,6 +106,14 @@ public final class LanguageTest {
             rule(4, tree + " has one length", tree.getDimensions().size() == 1
                 && tree.getInitializers() == null);
             return super.visitNewArray(tree, nothing);
+        }
+
+        @Override
+        public Void visitForLoop(ForLoopTree tree, Void nothing) {
+            rule(8, "a loop with a bound: for (" + tree.getInitializer() + tree.getCondition() + ")",
+                tree.getInitializer().size() == 1 && tree.getUpdate().size() == 1
+                && tree.getCondition() != null && tree.getCondition().getKind() == Tree.Kind.LESS_THAN);
+            return super.visitForLoop(tree, nothing);
         }
 
         @Override

@@ -201,6 +201,21 @@ public final class P08AnswerTest {
         adoptNak(0, 65535, 0, 65534, 65534);
     }
 
+    /** A second Nak is drawn into the range, not below what the first Nak (COMP 9) left wanted. */
+    private static void adoptSecondNak(int otherLo, int otherHi, int wantDue) {
+        Check.sentence("Actions of peer p", ADOPT);
+        PppNegotiator x = Scene.withAnswers();
+        Scene.deliverCode(x, 1, PppNegotiator.CODE_CONF_NAK);
+        Check.options("the first Nak", x, 0, PppNegotiator.OI_SENT, 1500, -1, -1, 9);
+        x.setRange(1, PppNegotiator.OPT_COMP, otherLo, otherHi);
+        Scene.empty(x, 1);
+        x.up(1);
+        x.deliver(0);
+        Scene.deliverCode(x, 1, PppNegotiator.CODE_CONF_NAK);
+        Check.options("the second Nak", x, 0, PppNegotiator.OI_WANT, 1500, 0, 0, wantDue);
+        Check.options("the second Nak", x, 0, PppNegotiator.OI_SENT, 1500, -1, -1, wantDue);
+    }
+
     /** An option that the refusal does not name keeps both want and included. */
     private static void onlyTheNamed() {
         Check.sentence("Actions of peer p", ADOPT);
@@ -298,6 +313,10 @@ public final class P08AnswerTest {
         oldIds(4, "4: valid only if m.id == crId and every option present in m equals its sent"
             + " value; then RCN.");
         adoptNaks();
+        adoptSecondNak(0, 8, 8);
+        adoptSecondNak(10, 20, 10);
+        adoptSecondNak(15, 20, 15);
+        adoptSecondNak(16, 20, 15);
         onlyTheNamed();
         nakOfTheSameValue(2, 6);
         nakOfTheSameValue(3, 6);

@@ -75,6 +75,22 @@ public final class P08ClassifyTest {
         }
     }
 
+    /** The range decides and not what a Nak has made of want: 9 is wanted, 15 still accepted. */
+    private static void rangeAndNotWant(int asked, int code, int value) {
+        Check.sentence("CLASSIFY", RANGE);
+        PppNegotiator x = Scene.withAnswers();
+        Scene.deliverCode(x, 1, NAK);
+        Check.options("a Nak before", x, 0, PppNegotiator.OI_WANT, 1500, 0, 0, 9);
+        x.setRange(1, PppNegotiator.OPT_COMP, 0, asked);
+        Scene.empty(x, 0);
+        Scene.empty(x, 1);
+        x.up(1);
+        int id = x.wireInfo(1, 0, PppNegotiator.W_ID);
+        x.deliver(1);
+        int mru = code == ACK ? 1500 : -1;
+        Check.message("COMP " + asked + " asked", x, 0, 0, code, id, 0, mru, -1, -1, value);
+    }
+
     /** One option asked for; code and value of the answer. */
     private static void one(String what, int o, int asked, int lo, int hi, int code, int value) {
         int[] values = {-1, -1, -1, -1};
@@ -275,6 +291,11 @@ public final class P08ClassifyTest {
 
     public static void main(String[] args) {
         edgesOfARange();
+        rangeAndNotWant(9, ACK, 9);
+        rangeAndNotWant(10, ACK, 10);
+        rangeAndNotWant(15, ACK, 15);
+        rangeAndNotWant(16, NAK, 15);
+        rangeAndNotWant(65535, NAK, 15);
         absent();
         rejected();
         nakked();

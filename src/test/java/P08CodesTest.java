@@ -146,6 +146,57 @@ public final class P08CodesTest {
         Check.peer("the older reply again", x, 0, PppNegotiator.INFO_MISSED, 1);
     }
 
+    /** An Echo-Request and an Echo-Reply for peer 0, peer 0 opened and one reply missed. */
+    private static PppNegotiator withKeepalives() {
+        PppNegotiator x = Scene.bothOpened();
+        x.echo(1);
+        x.echo(0);
+        x.deliver(0);
+        Check.message("before", x, 1, 0, 9, 2, 0, -1, -1, -1, -1);
+        Check.message("before", x, 1, 1, 10, 2, 0, -1, -1, -1, -1);
+        return x;
+    }
+
+    /** The state of the receiver counts, whatever has become of the sender. */
+    private static void keepaliveOfOneOpened() {
+        Check.sentence("Transitions", "RXR: 9 only: for an Echo-Request, ser; for an Echo-Reply"
+            + " whose id == echoId, missed = 0.");
+        PppNegotiator x = withKeepalives();
+        x.down(1);
+        x.deliver(1);
+        Check.due("only the receiver opened: replies", x.wireSize(0), 1);
+        Check.message("only the receiver opened", x, 0, 0, 10, 2, 0, -1, -1, -1, -1);
+        x.deliver(1);
+        Check.peer("only the receiver opened", x, 0, PppNegotiator.INFO_MISSED, 0);
+
+        x = withKeepalives();
+        x.down(0);
+        x.up(0);
+        Scene.empty(x, 0);
+        int[] items = Check.items(x);
+        Check.peer("before", x, 0, PppNegotiator.INFO_STATE, 6, PppNegotiator.INFO_MISSED, 1);
+        Check.peer("before", x, 1, PppNegotiator.INFO_STATE, 9);
+        x.deliver(1);
+        x.deliver(1);
+        Check.same("only the sender opened: the same items", Check.items(x), items);
+        Check.due("only the sender opened: replies", x.wireSize(0), 0);
+    }
+
+    /** Ids taken since for other messages do not make the last Echo-Request an older one. */
+    private static void replyAfterOtherIds() {
+        Check.sentence("Transitions", "RXR: 9 only: for an Echo-Request, ser; for an Echo-Reply"
+            + " whose id == echoId, missed = 0.");
+        PppNegotiator x = Scene.bothOpened();
+        x.echo(0);
+        x.inject(1, 8, 0);
+        x.deliver(0);
+        x.deliver(1);
+        Check.peer("a Code-Reject sent", x, 0, PppNegotiator.INFO_NEXT_ID, 3,
+            PppNegotiator.INFO_ECHO_ID, 2, PppNegotiator.INFO_MISSED, 1);
+        Check.due("the reply", x.deliver(1), 10);
+        Check.peer("the reply", x, 0, PppNegotiator.INFO_MISSED, 0);
+    }
+
     private static void fullWires() {
         for (int state = 2; state <= 9; state++) {
             int in = state;
@@ -182,7 +233,9 @@ public final class P08CodesTest {
         discardCode();
         keepaliveNotOpened();
         keepaliveOpened();
+        keepaliveOfOneOpened();
         olderReply();
+        replyAfterOtherIds();
         fullWires();
         Check.end();
     }

@@ -84,6 +84,31 @@ public final class P08RequestTest {
         }
     }
 
+    /**
+     * In state 2 every request that is not discarded is answered with a Terminate-Ack of its id. The
+     * request comes twice and is peer 1's third, so that no counter of peer 0 has the same number.
+     */
+    private static void terminateAckInClosed(int mru, boolean hopeless) {
+        Check.sentence("Transitions", mru == GOOD && !hopeless ? "RCR+: 2: sta" : "RCR-: 2: sta");
+        PppNegotiator x = Scene.in(2);
+        if (hopeless) {
+            x.setRange(0, PppNegotiator.OPT_COMP, 1, 0);
+        }
+        for (int id = 1; id <= 3; id++) {
+            Scene.requestOfPeer1(x, mru);
+        }
+        x.duplicate(1);
+        int[] due = Check.items(x);
+        due[PppNegotiator.INFO_HIGH_CR] = 3;
+        for (int times = 1; times <= 2; times++) {
+            String what = "request for " + mru + (hopeless ? ", hopeless" : "") + ", time " + times;
+            Check.due(what, x.deliver(1), 1);
+            Check.same(what + ": the items due", Check.items(x), due);
+            Check.due(what + ": messages", x.wireSize(0), times);
+            Check.message(what, x, 0, times - 1, 6, 3, 0, -1, -1, -1, -1);
+        }
+    }
+
     /** Requests 1, 1, 2 and 1 of peer 1 on wire 1; peer 0 in the given state. */
     private static PppNegotiator withOldRequests(int state) {
         PppNegotiator x = Scene.in(state);
@@ -223,6 +248,10 @@ public final class P08RequestTest {
     public static void main(String[] args) {
         everyState();
         quietStates();
+        terminateAckInClosed(GOOD, false);
+        terminateAckInClosed(BAD, false);
+        terminateAckInClosed(GOOD, true);
+        terminateAckInClosed(BAD, true);
         firstAndEqualIds();
         for (int state = 2; state <= 6; state++) {
             lowerIds(state);
