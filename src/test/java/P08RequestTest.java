@@ -203,6 +203,20 @@ public final class P08RequestTest {
         Check.peer("the nak counts", x, 0, PppNegotiator.INFO_NAKS, 1);
     }
 
+    /** What is wanted from this start on counts, not what an earlier request had asked for. */
+    private static void onlyMagicInStopped() {
+        Check.sentence("CLASSIFY", "Done by p using p's current range, want, included and naks.");
+        PppNegotiator x = Scene.in(3);
+        x.setRange(0, PppNegotiator.OPT_MAGIC, 9, 9);
+        x.setRange(1, PppNegotiator.OPT_MAGIC, 9, 9);
+        Scene.requestOfPeer1(x, GOOD);
+        Check.options("the last request", x, 0, PppNegotiator.OI_SENT, 1500, -1, -1, 15);
+        x.deliver(1);
+        Check.message("the only magic there is", x, 0, 1, 3, 1, 0, -1, -1, 9, -1);
+        Check.peer("the only magic there is", x, 0, PppNegotiator.INFO_STATE, 6,
+            PppNegotiator.INFO_NAKS, 1);
+    }
+
     /** In the other states a request begins nothing: what was adopted before stays. */
     private static void noStartElsewhere() {
         Check.sentence(RECEPTION, "if the state is 3, start is done now");
@@ -258,6 +272,7 @@ public final class P08RequestTest {
         }
         noStartForAnOldOne();
         startInStopped();
+        onlyMagicInStopped();
         noStartElsewhere();
         fullWires();
         Check.end();
